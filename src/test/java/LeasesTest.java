@@ -13,6 +13,7 @@ public final class LeasesTest {
         laying();
         layingRefused();
         layingForgets();
+        faultLeavesWhatIsLaid();
         tenants();
         ships();
         stripes();
@@ -125,6 +126,9 @@ public final class LeasesTest {
         Check.due("b20 without: 20 is not behind", y.tenant(0, 6), 0);
         y.pass(1);
         Check.due("b20 without: 30 is behind", y.tenant(0, 6), 1);
+        LetByColours seven = Check.laid("t2,0,1,7,0;");
+        seven.pass(3);
+        Check.due("b20 without: 21 is behind", seven.tenant(0, 6), 1);
         Check.write(x, "t1,0,1,0,0;");
         Check.due("lay() of a text of one", x.lay(), 1);
         Check.due("no ships then", x.count(1), 0);
@@ -162,6 +166,19 @@ public final class LeasesTest {
         }
         Check.due("undo()", x.undo(), LetByColours.NO);
         Check.due("back()", x.back(), LetByColours.NO);
+    }
+
+    private static void faultLeavesWhatIsLaid() {
+        LetByColours x = Check.laid("t1,3,2,7,0;s4,5;b1;");
+        String ahead = Check.stateOf(x);
+        Check.write(x, "t0,9,9,9,1;s7,7;f0,0,0;b9;");
+        Check.due("fault()", x.fault(), LetByColours.NONE);
+        Check.holds("fault() changes no tenant", ahead.equals(Check.stateOf(x)));
+        Check.due("nor a ship", x.ship(0, 0), 4);
+        x.write('x');
+        Check.due("lay()", x.lay(), LetByColours.NO);
+        Check.holds("a refused lay() changes no tenant", ahead.equals(Check.stateOf(x)));
+        Check.due("nor a ship", x.ship(0, 1), 5);
     }
 
     private static void tenants() {

@@ -74,6 +74,12 @@ public final class LookedAtTest {
         dueBehind(six, 64, 0);
         six.look(0, 4);
         dueBehind(six, 1, 63);
+        six.forget();
+        six.look(0, 0);
+        six.look(0, 1);
+        six.forget();
+        six.look(0, 0);
+        dueBehind(six, 63, 0);
     }
 
     private static void behindByNightAndSmoke() {
@@ -188,6 +194,11 @@ public final class LookedAtTest {
         LetByColours one = Check.laid("t0,0,1,20,0;");
         Check.due("owed(1), none of those laid ahead", one.owed(1), 20);
         Check.due("owed(0)", one.owed(0), 0);
+        Check.write(x, "t0,0,1,20,0;t0,0,1,19,0;");
+        x.lay();
+        Check.write(x, "t0,0,1,18,0;");
+        x.lay();
+        Check.due("owed(1), none of those two texts ahead", x.owed(1), 18);
     }
 
     /** The fog of the k-th night, counted with numbers that can't be too small. */
