@@ -12,7 +12,7 @@ public final class ActsTest {
     }
 
     private static void passing() {
-        LetByColours x = new LetByColours();
+        House x = new House();
         Check.due("pass(1)", x.pass(1), 1);
         Check.due("pass(30)", x.pass(30), 31);
         Check.due("count(2)", x.count(2), 31);
@@ -34,7 +34,7 @@ public final class ActsTest {
     }
 
     private static void paying() {
-        LetByColours x = new LetByColours();
+        House x = new House();
         x.pass(30);
         Check.due("pay(0, 99)", x.pay(0, 99), 51);
         Check.due("pay(0, 1)", x.pay(0, 1), 50);
@@ -51,7 +51,7 @@ public final class ActsTest {
     }
 
     private static void changing() {
-        LetByColours x = new LetByColours();
+        House x = new House();
         Check.due("change(2, 0)", x.change(2, 0), 0);
         Check.due("N of 2", x.tenant(2, 2), 6);
         Check.due("A of 0", x.tenant(0, 1), 9);
@@ -66,7 +66,7 @@ public final class ActsTest {
     }
 
     private static void smoking() {
-        LetByColours x = new LetByColours();
+        House x = new House();
         Check.due("smoke(0)", x.smoke(0), 1);
         Check.due("smoke(23)", x.smoke(23), 1);
         Check.due("smoke(16)", x.smoke(16), 1);
@@ -81,7 +81,7 @@ public final class ActsTest {
     }
 
     private static void undoingEach() {
-        LetByColours x = new LetByColours();
+        House x = new House();
         Check.dueUnchanged("undo() at first", x, x::undo, LetByColours.NO);
         String[] states = new String[5];
         states[0] = Check.stateOf(x);
@@ -106,7 +106,7 @@ public final class ActsTest {
     }
 
     private static void undoingTheLastEight() {
-        LetByColours x = new LetByColours();
+        House x = new House();
         String[] states = new String[24];
         for (int s = 0; s < 20; s++) {
             states[s] = Check.stateOf(x);
@@ -130,7 +130,7 @@ public final class ActsTest {
     }
 
     private static void refusedIsNoAct() {
-        LetByColours x = new LetByColours();
+        House x = new House();
         x.pass(0);
         x.pay(0, 0);
         x.change(1, 1);

@@ -9,7 +9,7 @@ public final class KeptTest {
     }
 
     private static void keeping() {
-        LetByColours x = new LetByColours();
+        House x = new House();
         Check.due("keep()", x.keep(), 1);
         x.pass(1);
         Check.due("keep()", x.keep(), 2);
@@ -24,7 +24,7 @@ public final class KeptTest {
     }
 
     private static void goingBack() {
-        LetByColours x = new LetByColours();
+        House x = new House();
         Check.dueUnchanged("back() at first", x, x::back, LetByColours.NO);
         x.pass(7);
         x.pay(0, 12);
@@ -53,7 +53,7 @@ public final class KeptTest {
     }
 
     private static void keptStaysAsItWas() {
-        LetByColours x = new LetByColours();
+        House x = new House();
         String first = Check.stateOf(x);
         x.keep();
         x.change(0, 1);
@@ -79,7 +79,7 @@ public final class KeptTest {
     }
 
     private static void counting() {
-        LetByColours x = Check.laid("t0,0,2,9,0;t1,2,2,8,0;t2,4,2,3,0;s0,2;s2,4;b20;");
+        House x = Check.laid("t0,0,2,9,0;t1,2,2,8,0;t2,4,2,3,0;s0,2;s2,4;b20;");
         x.write('x');
         x.pass(3);
         x.smoke(5);

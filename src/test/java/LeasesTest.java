@@ -22,7 +22,7 @@ public final class LeasesTest {
     }
 
     private static void newObject() {
-        LetByColours x = new LetByColours();
+        House x = new House();
         int[] counts = {5, 4, 0, 0, 0, 0, 0, 0, 0};
         for (int what = 0; what < counts.length; what++) {
             Check.due("count(" + what + ")", x.count(what), counts[what]);
@@ -30,17 +30,17 @@ public final class LeasesTest {
         Check.dueColours("at first", x, "000000111142424433333344");
         Check.due("fault()", x.fault(), LetByColours.NONE);
         Check.due("lay() of nothing", x.lay(), LetByColours.NO);
-        LetByColours told = Check.laid(FIRST);
+        House told = Check.laid(FIRST);
         Check.holds("at first the first text is laid", Check.stateOf(told).equals(Check.stateOf(x)));
         for (int k = 0; k < 4; k++) {
             Check.due("ship(" + k + ", 0)", x.ship(k, 0), told.ship(k, 0));
             Check.due("ship(" + k + ", 1)", x.ship(k, 1), told.ship(k, 1));
         }
-        Check.due("a second new object knows nothing of the first", new LetByColours().count(8), 0);
+        Check.due("a second new object knows nothing of the first", new House().count(8), 0);
     }
 
     private static void writing() {
-        LetByColours x = new LetByColours();
+        House x = new House();
         Check.due("write(32)", x.write(32), 1);
         Check.due("write(126)", x.write(126), 2);
         for (int letter : new int[] {31, 127, -1, 0, Integer.MIN_VALUE, Integer.MAX_VALUE, 32 + 65536}) {
@@ -55,7 +55,7 @@ public final class LeasesTest {
     }
 
     private static void wiping() {
-        LetByColours x = new LetByColours();
+        House x = new House();
         Check.due("wipe() of nothing", x.wipe(), 0);
         Check.write(x, "t4");
         Check.due("fault()", x.fault(), 0);
@@ -108,7 +108,7 @@ public final class LeasesTest {
     }
 
     private static void laying() {
-        LetByColours x = Check.laid("b3;s23,2;t3,23,2,4,0;f1,2,3;t0,4,1,0,3;b7;f5,5,0;");
+        House x = Check.laid("b3;s23,2;t3,23,2,4,0;f1,2,3;t0,4,1,0,3;b7;f5,5,0;");
         Check.due("THE TEXT stays", x.count(8), 49);
         Check.due("count(0)", x.count(0), 2);
         Check.due("count(1)", x.count(1), 1);
@@ -119,14 +119,14 @@ public final class LeasesTest {
         Check.due("the last b holds: 4 is not behind", x.tenant(0, 6), 0);
         x.pass(1);
         Check.due("the last b holds: 8 is behind", x.tenant(0, 6), 1);
-        LetByColours y = Check.laid("t2,0,1,10,0;s0,1;");
+        House y = Check.laid("t2,0,1,10,0;s0,1;");
         Check.due("f4,3,2 without: odds(0, 0)", y.odds(0, 0), 7);
         Check.due("f4,3,2 without: odds(0, 1)", y.odds(0, 1), 10);
         y.pass(2);
         Check.due("b20 without: 20 is not behind", y.tenant(0, 6), 0);
         y.pass(1);
         Check.due("b20 without: 30 is behind", y.tenant(0, 6), 1);
-        LetByColours seven = Check.laid("t2,0,1,7,0;");
+        House seven = Check.laid("t2,0,1,7,0;");
         seven.pass(3);
         Check.due("b20 without: 21 is behind", seven.tenant(0, 6), 1);
         Check.write(x, "t1,0,1,0,0;");
@@ -138,7 +138,7 @@ public final class LeasesTest {
 
     private static void layingRefused() {
         for (String text : new String[] {"", "s0,1;b2;f1,1,1;", "t0,0,1,0,0;x", "x", "t0,0,1,0,0;b61;"}) {
-            LetByColours x = new LetByColours();
+            House x = new House();
             Check.write(x, text);
             x.pass(3);
             x.smoke(4);
@@ -152,7 +152,7 @@ public final class LeasesTest {
     }
 
     private static void layingForgets() {
-        LetByColours x = new LetByColours();
+        House x = new House();
         x.pass(5);
         x.smoke(3);
         x.change(0, 1);
@@ -160,7 +160,7 @@ public final class LeasesTest {
         x.keep();
         Check.write(x, FIRST);
         Check.due("lay()", x.lay(), 5);
-        Check.holds("all is as at first", Check.stateOf(x).equals(Check.stateOf(new LetByColours())));
+        Check.holds("all is as at first", Check.stateOf(x).equals(Check.stateOf(new House())));
         for (int what = 2; what <= 7; what++) {
             Check.due("count(" + what + ")", x.count(what), 0);
         }
@@ -169,7 +169,7 @@ public final class LeasesTest {
     }
 
     private static void faultLeavesWhatIsLaid() {
-        LetByColours x = Check.laid("t1,3,2,7,0;s4,5;b1;");
+        House x = Check.laid("t1,3,2,7,0;s4,5;b1;");
         String ahead = Check.stateOf(x);
         Check.write(x, "t0,9,9,9,1;s7,7;f0,0,0;b9;");
         Check.due("fault()", x.fault(), LetByColours.NONE);
@@ -182,7 +182,7 @@ public final class LeasesTest {
     }
 
     private static void tenants() {
-        LetByColours x = new LetByColours();
+        House x = new House();
         int[][] due = {{0, 0, 6, 5, 0}, {1, 6, 4, 3, 1}, {2, 9, 5, 8, 2}, {3, 16, 6, 1, 0}, {1, 20, 2, 2, 3}};
         for (int i = 0; i < due.length; i++) {
             for (int what = 0; what < 5; what++) {
@@ -214,7 +214,7 @@ public final class LeasesTest {
     }
 
     private static void ships() {
-        LetByColours x = new LetByColours();
+        House x = new House();
         int[][] due = {{0, 6}, {8, 4}, {15, 5}, {22, 4}};
         for (int k = 0; k < due.length; k++) {
             Check.due("ship(" + k + ", 0)", x.ship(k, 0), due[k][0]);
@@ -227,7 +227,7 @@ public final class LeasesTest {
     }
 
     private static void stripes() {
-        LetByColours x = new LetByColours();
+        House x = new House();
         int no = LetByColours.NONE;
         int[] whose = {0, 0, 0, 0, 0, 0, 1, 1, 1, 1, no, 2, no, 2, no, no, 3, 3, 3, 3, 3, 3, no, no};
         for (int s = 0; s < 24; s++) {
@@ -253,25 +253,25 @@ public final class LeasesTest {
     }
 
     private static void stripesByKind() {
-        LetByColours plain = Check.laid("t3,20,12,0,0;");
+        House plain = Check.laid("t3,20,12,0,0;");
         Check.dueColours("PLAIN, over 23", plain, "333333334444444444443333");
-        LetByColours lunar = Check.laid("t1,22,4,0,1;t0,0,2,0,0;");
+        House lunar = Check.laid("t1,22,4,0,1;t0,0,2,0,0;");
         Check.dueColours("LUNAR, even", lunar, "114444444444444444444411");
         lunar.pass(1);
         Check.dueColours("LUNAR, odd", lunar, "004444444444444444444444");
-        LetByColours sharing = Check.laid("t2,21,5,0,2;");
+        House sharing = Check.laid("t2,21,5,0,2;");
         Check.dueColours("SHARING, even", sharing, "424444444444444444444242");
         sharing.pass(1);
         Check.dueColours("SHARING, odd", sharing, "244444444444444444444424");
-        LetByColours widest = Check.laid("t2,1,12,0,2;");
+        House widest = Check.laid("t2,1,12,0,2;");
         Check.dueColours("SHARING 12, even", widest, "424242424242444444444444");
         widest.pass(29);
         Check.dueColours("SHARING 12, odd", widest, "442424242424244444444444");
-        LetByColours proud = Check.laid("t0,0,1,5,3;t0,1,1,5,3;t1,2,1,4,3;t1,3,1,5,0;t2,4,1,0,3;t3,5,1,19,3;b9;");
+        House proud = Check.laid("t0,0,1,5,3;t0,1,1,5,3;t1,2,1,4,3;t1,3,1,5,0;t2,4,1,0,3;t3,5,1,19,3;b9;");
         Check.dueColours("PROUD: alike, less, alone", proud, "004123444444444444444444");
         proud.pass(2);
         Check.dueColours("PROUD: who is behind still counts", proud, "444424444444444444444444");
-        LetByColours first = Check.laid("t1,2,3,20,0;t0,1,5,0,0;b10;");
+        House first = Check.laid("t1,2,3,20,0;t0,1,5,0,0;b10;");
         Check.dueColours("the first one by number", first, "401110444444444444444444");
         first.pass(1);
         Check.dueColours("or the next, if he is behind", first, "400000444444444444444444");

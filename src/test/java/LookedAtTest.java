@@ -18,7 +18,7 @@ public final class LookedAtTest {
     }
 
     private static void looking() {
-        LetByColours x = new LetByColours();
+        House x = new House();
         Check.due("forget() of nothing", x.forget(), 0);
         for (int[] wrong : new int[][] {{24, 0}, {-1, 0}, {0, 5}, {0, -1}, {Integer.MAX_VALUE, 9}}) {
             Check.dueUnchanged("look(" + wrong[0] + ", " + wrong[1] + ")", x, () -> x.look(wrong[0], wrong[1]), BAD);
@@ -39,13 +39,13 @@ public final class LookedAtTest {
         Check.due("look(0, 0)", x.look(0, 0), 1);
     }
 
-    private static void dueBehind(LetByColours x, int many, int first) {
+    private static void dueBehind(House x, int many, int first) {
         Check.due("behind(0)", x.behind(0), many);
         Check.due("behind(1)", x.behind(1), first);
     }
 
     private static void behind() {
-        LetByColours x = Check.laid("t0,0,4,0,0;t1,2,4,0,0;t2,0,2,1,0;t0,20,1,0,0;b0;");
+        House x = Check.laid("t0,0,4,0,0;t1,2,4,0,0;t2,0,2,1,0;t0,20,1,0,0;b0;");
         dueBehind(x, 16, 0);
         x.look(2, 1);
         dueBehind(x, 4, 1);
@@ -70,7 +70,7 @@ public final class LookedAtTest {
         Check.due("behind(2)", x.behind(2), BAD);
         Check.due("behind(-1)", x.behind(-1), BAD);
         dueBehind(Check.laid("t0,0,1,0,0;"), 2, 0);
-        LetByColours six = Check.laid("t0,0,1,0,0;".repeat(6));
+        House six = Check.laid("t0,0,1,0,0;".repeat(6));
         dueBehind(six, 64, 0);
         six.look(0, 4);
         dueBehind(six, 1, 63);
@@ -83,7 +83,7 @@ public final class LookedAtTest {
     }
 
     private static void behindByNightAndSmoke() {
-        LetByColours x = Check.laid("t0,0,4,5,1;t0,2,4,4,3;t3,0,2,0,2;");
+        House x = Check.laid("t0,0,4,5,1;t0,2,4,4,3;t3,0,2,0,2;");
         x.look(0, 3);
         dueBehind(x, 2, 1);
         x.forget();
@@ -104,7 +104,7 @@ public final class LookedAtTest {
     }
 
     private static void panes() {
-        LetByColours x = new LetByColours();
+        House x = new House();
         Check.due("panes() of nothing", x.panes(), 0);
         x.look(0, 4);
         Check.due("panes()", x.panes(), 1);
@@ -125,7 +125,7 @@ public final class LookedAtTest {
         Check.due("panes()", x.panes(), 0);
     }
 
-    private static void dueOdds(LetByColours x, int k, int above, int below) {
+    private static void dueOdds(House x, int k, int above, int below) {
         Check.due("odds(" + k + ", 0)", x.odds(k, 0), above);
         Check.due("odds(" + k + ", 1)", x.odds(k, 1), below);
     }
@@ -133,21 +133,21 @@ public final class LookedAtTest {
     private static final String FOUR = "t3,0,2,0,0;t2,2,2,0,0;t1,4,2,0,0;t0,6,2,0,0;s0,2;s0,4;s0,6;s2,6;s8,9;";
 
     private static void odds() {
-        LetByColours x = Check.laid(FOUR);
+        House x = Check.laid(FOUR);
         dueOdds(x, 0, 2, 5);
         dueOdds(x, 1, 7, 10);
         dueOdds(x, 2, 9, 10);
         dueOdds(x, 3, 1, 1);
         dueOdds(x, 4, 0, 1);
-        LetByColours y = Check.laid(FOUR + "f1,1,3;");
+        House y = Check.laid(FOUR + "f1,1,3;");
         dueOdds(y, 0, 1, 10);
         dueOdds(y, 1, 1, 5);
         dueOdds(y, 2, 1, 2);
         dueOdds(y, 3, 1, 1);
-        LetByColours z = Check.laid(FOUR + "f0,0,0;");
+        House z = Check.laid(FOUR + "f0,0,0;");
         dueOdds(z, 2, 0, 1);
         dueOdds(z, 3, 1, 1);
-        LetByColours w = Check.laid(FOUR + "f2,6,2;");
+        House w = Check.laid(FOUR + "f2,6,2;");
         dueOdds(w, 0, 1, 5);
         dueOdds(w, 1, 4, 5);
         dueOdds(w, 2, 1, 1);
@@ -159,13 +159,13 @@ public final class LookedAtTest {
         Check.due("odds(0, -1)", x.odds(0, -1), BAD);
     }
 
-    private static void dueMean(LetByColours x, int above, int below) {
+    private static void dueMean(House x, int above, int below) {
         Check.due("mean(0)", x.mean(0), above);
         Check.due("mean(1)", x.mean(1), below);
     }
 
     private static void mean() {
-        LetByColours x = Check.laid(FOUR);
+        House x = Check.laid(FOUR);
         dueMean(x, 3, 1);
         dueMean(Check.laid(FOUR + "f1,1,3;"), 9, 5);
         dueMean(Check.laid(FOUR + "f0,0,0;"), 1, 1);
@@ -180,7 +180,7 @@ public final class LookedAtTest {
     }
 
     private static void owed() {
-        LetByColours x = new LetByColours();
+        House x = new House();
         Check.due("owed(0)", x.owed(0), 0);
         Check.due("owed(1)", x.owed(1), 19);
         x.pass(10);
@@ -191,7 +191,7 @@ public final class LookedAtTest {
         Check.due("owed(1)", x.owed(1), 19);
         Check.due("owed(2)", x.owed(2), BAD);
         Check.due("owed(-1)", x.owed(-1), BAD);
-        LetByColours one = Check.laid("t0,0,1,20,0;");
+        House one = Check.laid("t0,0,1,20,0;");
         Check.due("owed(1), none of those laid ahead", one.owed(1), 20);
         Check.due("owed(0)", one.owed(0), 0);
         Check.write(x, "t0,0,1,20,0;t0,0,1,19,0;");
@@ -208,7 +208,7 @@ public final class LookedAtTest {
     }
 
     private static void weeksByDraws() {
-        LetByColours x = Check.laid(FOUR);
+        House x = Check.laid(FOUR);
         int[] sureIn = {4, 3, 2, 1};
         // 1 by 4, cut, is 0: FOG 0 on the first night of z = 0; 6152 times 6152 modulo 65521 is 41487, by 4 10371: FOG 3.
         Check.due("weeks(0, 1, 1)", x.weeks(0, 1, 1), 4);
@@ -222,20 +222,20 @@ public final class LookedAtTest {
             }
             x = Check.laid(FOUR);
         }
-        LetByColours y = Check.laid("t2,0,2,0,0;t0,5,1,0,0;s0,2;s4,2;");
+        House y = Check.laid("t2,0,2,0,0;t0,5,1,0,0;s0,2;s4,2;");
         int nights = 0;
         for (int n = 1; n <= 60; n++) {
             nights += fog(321, n - 1) <= 1 ? 1 : 0;
             Check.due("weeks(321, " + n + ", 0)", y.weeks(321, n, 0), nights);
             Check.due("weeks(321, " + n + ", 1)", y.weeks(321, n, 1), n + nights);
         }
-        LetByColours none = Check.laid("t2,0,2,0,0;");
+        House none = Check.laid("t2,0,2,0,0;");
         Check.due("without ships all are SURE", none.weeks(5, 60, 0), 60);
         Check.due("and none, together", none.weeks(5, 60, 1), 0);
     }
 
     private static void weeksGoOn() {
-        LetByColours rent = Check.laid("t0,0,2,3,0;s0,2;b20;");
+        House rent = Check.laid("t0,0,2,3,0;s0,2;b20;");
         Check.due("7 nights until 21 in arrears", rent.weeks(3, 60, 0), 7);
         Check.due("weeks(3, 6, 0)", rent.weeks(3, 6, 0), 6);
         rent.pass(5);
@@ -245,7 +245,7 @@ public final class LookedAtTest {
         Check.due("nothing changes: undone", rent.count(6), 1);
         rent.pay(0, 15);
         Check.due("7 again", rent.weeks(3, 60, 0), 7);
-        LetByColours moon = Check.laid("t0,0,2,0,1;s0,2;");
+        House moon = Check.laid("t0,0,2,0,1;s0,2;");
         Check.due("LUNAR, 7 nights from 0", moon.weeks(9, 7, 0), 4);
         moon.pass(1);
         Check.due("LUNAR, 7 nights from 1", moon.weeks(9, 7, 0), 3);
@@ -253,7 +253,7 @@ public final class LookedAtTest {
         Check.due("one pane smoked", moon.weeks(9, 7, 0), 3);
         moon.smoke(1);
         Check.due("both", moon.weeks(9, 7, 0), 0);
-        LetByColours late = Check.laid("t0,0,2,0,0;s0,2;");
+        House late = Check.laid("t0,0,2,0,0;s0,2;");
         for (int i = 0; i < 33; i++) {
             late.pass(30);
         }
@@ -262,7 +262,7 @@ public final class LookedAtTest {
     }
 
     private static void weeksWrong() {
-        LetByColours x = new LetByColours();
+        House x = new House();
         for (int[] wrong : new int[][] {{-1, 1, 0}, {10000, 1, 0}, {0, 0, 0}, {0, -1, 0}, {0, 61, 0}, {0, 1, 2}, {0, 1, -1},
             {Integer.MAX_VALUE, 1, 0}, {0, Integer.MAX_VALUE, 0}, {0, 1, Integer.MIN_VALUE}}) {
             Check.dueUnchanged("weeks(" + wrong[0] + ", " + wrong[1] + ", " + wrong[2] + ")", x,

@@ -9,7 +9,7 @@ public final class ShipsTest {
     }
 
     private static void seeing() {
-        LetByColours x = new LetByColours();
+        House x = new House();
         int[] stripes = {0, 6, 11, 16, 10};
         String[] due = {"1111", "1110", "1100", "1000", "0000"};
         for (int i = 0; i < stripes.length; i++) {
@@ -24,7 +24,7 @@ public final class ShipsTest {
         }
     }
 
-    private static void dueSigns(LetByColours x, int k, int... due) {
+    private static void dueSigns(House x, int k, int... due) {
         for (int fog = 0; fog < 4; fog++) {
             Check.due("sign(" + k + ", " + fog + ")", x.sign(k, fog), due[fog]);
         }
@@ -32,7 +32,7 @@ public final class ShipsTest {
 
     private static void signs() {
         int no = LetByColours.NONE;
-        LetByColours x = Check.laid("t3,0,2,0,0;t2,2,2,0,0;t1,4,2,0,0;t0,6,2,0,0;s0,2;s0,4;s0,6;s2,6;s8,9;");
+        House x = Check.laid("t3,0,2,0,0;t2,2,2,0,0;t1,4,2,0,0;t0,6,2,0,0;s0,2;s0,4;s0,6;s2,6;s8,9;");
         dueSigns(x, 0, 3, no, no, no);
         dueSigns(x, 1, 2, 2, no, no);
         dueSigns(x, 2, 1, 1, 1, no);
@@ -41,7 +41,7 @@ public final class ShipsTest {
         x.smoke(5);
         x.smoke(4);
         dueSigns(x, 2, 2, 2, no, no);
-        LetByColours y = Check.laid("t3,0,2,0,0;t2,1,3,0,0;t0,20,1,0,0;s0,3;s1,3;s3,1;");
+        House y = Check.laid("t3,0,2,0,0;t2,1,3,0,0;t0,20,1,0,0;s0,3;s1,3;s3,1;");
         dueSigns(y, 0, 3, no, no, no);
         dueSigns(y, 1, 2, 2, no, no);
         dueSigns(y, 2, no, no, no, no);
@@ -54,12 +54,12 @@ public final class ShipsTest {
     }
 
     private static void signsAroundTheEnd() {
-        LetByColours x = Check.laid("t0,22,4,0,0;s22,4;s23,3;s22,3;s20,12;s0,12;");
+        House x = Check.laid("t0,22,4,0,0;s22,4;s23,3;s22,3;s20,12;s0,12;");
         Check.due("fleet(3)", x.fleet(3), 9);
     }
 
     private static void fleets() {
-        LetByColours x = Check.laid("t3,0,2,0,0;t2,2,2,0,0;t1,4,2,0,0;t0,6,2,0,0;s0,2;s0,4;s0,6;s2,6;s8,9;");
+        House x = Check.laid("t3,0,2,0,0;t2,2,2,0,0;t1,4,2,0,0;t0,6,2,0,0;s0,2;s0,4;s0,6;s2,6;s8,9;");
         int[] due = {15, 15 - 1, 15 - 3, 8};
         for (int fog = 0; fog < 4; fog++) {
             Check.due("fleet(" + fog + ")", x.fleet(fog), due[fog]);
@@ -68,10 +68,10 @@ public final class ShipsTest {
         for (int fog : new int[] {-2, 4, Integer.MAX_VALUE, Integer.MIN_VALUE}) {
             Check.due("fleet(" + fog + ")", x.fleet(fog), LetByColours.BAD);
         }
-        LetByColours none = Check.laid("t0,0,1,0,0;");
+        House none = Check.laid("t0,0,1,0,0;");
         Check.due("fleet(0) without ships", none.fleet(0), 0);
         Check.due("fleet(-1) without ships", none.fleet(-1), 0);
-        LetByColours all = Check.laid("t0,3,1,0,0;s3,1;s2,2;s3,2;s0,12;s16,12;");
+        House all = Check.laid("t0,3,1,0,0;s3,1;s2,2;s3,2;s0,12;s16,12;");
         Check.due("fleet(-1)", all.fleet(-1), 31);
     }
 }
