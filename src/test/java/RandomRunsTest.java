@@ -26,7 +26,9 @@ public final class RandomRunsTest {
 
     private void due(String call, int got, int want) {
         calls++;
-        Check.due("run " + run + ", call " + calls + ": " + call, got, want);
+        String place = "run " + run + ", call " + calls + ": " + call;
+        Check.due(place, got, want);
+        Check.holds(place + " answered one of the four, or 0 or more, " + got, got >= LetByColours.NONE);
     }
 
     private int upTo(int most) {

@@ -11,7 +11,7 @@ import java.util.regex.Pattern;
  * called more often than the document promises answers.
  */
 final class House {
-    private static final int MOST_CALLS = 512;
+    static final int MOST_CALLS = 512;
     private static final Pattern ROW = Pattern.compile("\\s*(\\w+)\\(([^()]*)\\) = (-?\\w+)\\s*;?\\s*");
     private static final Map<String, Method> METHODS = new HashMap<>();
 
@@ -117,7 +117,7 @@ final class House {
         return new Call(name, numbers);
     }
 
-    private static int number(String told) {
+    static int number(String told) {
         switch (told) {
             case "BAD": return LetByColours.BAD;
             case "NO": return LetByColours.NO;
