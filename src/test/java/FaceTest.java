@@ -5,11 +5,14 @@ import java.lang.reflect.Method;
 import java.lang.reflect.Modifier;
 import java.nio.file.Files;
 import java.nio.file.Path;
+import java.util.ArrayList;
+import java.util.List;
 import java.util.Set;
 import java.util.TreeSet;
+import java.util.regex.Matcher;
 import java.util.regex.Pattern;
 
-/** The public face, the words that LANGUAGE.md rules out, and what calls make in memory. */
+/** The public face, the words that LANGUAGE.md rules out, how large it lets things grow, and what calls make in memory. */
 public final class FaceTest {
     private static final String[] METHODS = {"write 1", "wipe 0", "fault 0", "lay 0", "tenant 2", "ship 2", "stripe 2", "pass 1",
         "pay 2", "change 2", "smoke 1", "undo 0", "seen 2", "sign 2", "fleet 1", "order 1", "needed 1", "least 1", "rock 1",
@@ -20,6 +23,7 @@ public final class FaceTest {
     public static void main(String[] args) throws Exception {
         face();
         words(Files.readString(Path.of(args[0])));
+        limits(Files.readString(Path.of(args[0])));
         memory();
         Check.end();
     }
@@ -77,6 +81,32 @@ public final class FaceTest {
         for (String line : program.split("\n")) {
             Check.holds("no library but java.util.Arrays: " + line,
                 !line.startsWith("import") || line.equals("import java.util.Arrays;"));
+        }
+    }
+
+    /** How large LANGUAGE.md lets methods, classes and the file grow. */
+    private static void limits(String program) {
+        int methods = 0;
+        Matcher method = Pattern.compile("(?m)^( +)(?:private|public) [^=;{]*\\([^=;{]*\\) \\{\n(.*\n)*?\\1\\}").matcher(program);
+        while (method.find()) {
+            methods++;
+            Check.holds("at most sixty lines: " + method.group(), method.group().split("\n").length <= 60);
+        }
+        Check.holds(methods + " methods were found", methods > METHODS.length + 30);
+        List<Class<?>> classes = new ArrayList<>(List.of(LetByColours.class.getDeclaredClasses()));
+        classes.add(LetByColours.class);
+        Check.holds(classes.size() + " classes, twelve at most", classes.size() <= 12);
+        for (Class<?> each : classes) {
+            int fields = 0;
+            for (Field f : each.getDeclaredFields()) {
+                boolean constant = Modifier.isStatic(f.getModifiers());
+                Check.holds(f + " is final", !constant || Modifier.isFinal(f.getModifiers()));
+                fields += constant ? 0 : 1;
+            }
+            Check.holds(each + " has " + fields + " fields, twenty at most", fields <= 20);
+            for (Method m : each.getDeclaredMethods()) {
+                Check.holds(m + " takes seven numbers at most", m.getParameterCount() <= 7);
+            }
         }
     }
 
